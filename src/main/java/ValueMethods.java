@@ -408,7 +408,7 @@ public final class ValueMethods {
             return 0;
         }
         long rest = dividend % divisor;
-        // Not by doubling the dividend: that of an own sum has no room for it to spare.
+        // Not by doubling the dividend: the greatest own sum's would all but fill a long.
         return dividend / divisor + (rest >= divisor - rest ? 1 : 0);
     }
 

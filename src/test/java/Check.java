@@ -5,11 +5,19 @@ final class Check {
     }
 
     private final String name;
+    private String sentence = "";
+    private int sentences = 0;
     private int done = 0;
     private int wrong = 0;
 
     Check(String name) {
         this.name = name;
+    }
+
+    /** What is checked from here on is the document's sentence. */
+    void sentence(String words) {
+        sentence = "\"" + words + "\": ";
+        sentences++;
     }
 
     void same(String what, long got, long due) {
@@ -28,7 +36,7 @@ final class Check {
         done++;
         if (!got.equals(due)) {
             wrong++;
-            System.out.println(name + ": " + what + " answered " + got + ", due is " + due);
+            System.out.println(name + ": " + sentence + what + " answered " + got + ", due is " + due);
         }
     }
 
@@ -59,29 +67,10 @@ final class Check {
     }
 
     void end() {
-        System.out.println(name + ": " + done + " checks, " + wrong + " wrong");
+        String of = sentences == 0 ? "" : " of " + sentences + " sentences";
+        System.out.println(name + ": " + done + " checks" + of + ", " + wrong + " wrong");
         if (wrong != 0) {
             System.exit(1);
         }
-    }
-
-    /** All that an object of few lines answers: alike before and after what changes nothing. */
-    static String answers(ValueMethods x) {
-        StringBuilder all = new StringBuilder();
-        for (int what = 0; what <= 6; what++) {
-            all.append(" count").append(what).append('=').append(x.count(what));
-            all.append(" sum").append(what).append('=').append(x.sum(what));
-        }
-        int method = x.method();
-        all.append(" method=").append(method);
-        for (int line = 0; line < x.count(0); line++) {
-            all.append(" line").append(line).append('=').append(x.transaction(line));
-            all.append(',').append(x.share(1000, line, true));
-            all.append(',').append(x.share(1000, line, false));
-            if (method != 0) {
-                all.append(',').append(x.value(line, 0)).append(',').append(x.value(line, 1));
-            }
-        }
-        return all.toString();
     }
 }

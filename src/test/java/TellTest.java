@@ -79,14 +79,14 @@ public final class TellTest {
         check.same("first line", x.line(0, 0), 0);
         check.same("second line", x.line(100000000, 100000000), 1);
         check.same("third line", x.line(5, 7), 2);
-        String before = Check.answers(x);
+        String before = Probe.answers(x);
         check.illegal("weight below", () -> x.line(-1, 0));
         check.illegal("weight above", () -> x.line(100000001, 0));
         check.illegal("price below", () -> x.line(0, -1));
         check.illegal("price above", () -> x.line(0, 100000001));
         check.illegal("least weight of all", () -> x.line(Long.MIN_VALUE, 0));
         check.illegal("price past an int", () -> x.line(0, 1L << 32));
-        check.same("wrong lines change nothing", Check.answers(x), before);
+        check.same("wrong lines change nothing", Probe.answers(x), before);
         check.same("weights", x.sum(0), 100000005);
         check.same("prices", x.sum(1), 100000007);
     }
@@ -110,7 +110,7 @@ public final class TellTest {
         check.yes("the greatest addition", x.add(4, 1000000000, true));
         check.same("additions", x.count(1), 3);
         check.same("their sum", x.sum(2), 1000000100L);
-        String before = Check.answers(x);
+        String before = Probe.answers(x);
         check.no("told", x.add(0, 7, false));
         check.no("told as 0", x.add(1, 5, false));
         check.illegal("kind below", () -> x.add(-1, 0, true));
@@ -118,7 +118,7 @@ public final class TellTest {
         check.illegal("cents below", () -> x.add(2, -1, true));
         check.illegal("cents above", () -> x.add(2, 1000000001, true));
         check.illegal("told, cents below", () -> x.add(0, -1, true));
-        check.same("wrong additions change nothing", Check.answers(x), before);
+        check.same("wrong additions change nothing", Probe.answers(x), before);
         check.yes("a kind that was told wrongly", x.add(2, 3, true));
 
         ValueMethods y = new ValueMethods();
@@ -136,7 +136,7 @@ public final class TellTest {
         check.yes("the greatest deduction", x.less(3, 1000000000, true));
         check.same("deductions", x.count(2), 3);
         check.same("their sum", x.sum(3), 1000000030L);
-        String before = Check.answers(x);
+        String before = Probe.answers(x);
         check.no("told", x.less(1, 7, false));
         check.no("told as 0", x.less(0, 5, false));
         check.illegal("kind below", () -> x.less(-1, 0, true));
@@ -144,7 +144,7 @@ public final class TellTest {
         check.illegal("cents below", () -> x.less(2, -1, true));
         check.illegal("cents above", () -> x.less(2, 1000000001, true));
         check.illegal("told, cents above", () -> x.less(1, 1000000001, true));
-        check.same("wrong deductions change nothing", Check.answers(x), before);
+        check.same("wrong deductions change nothing", Probe.answers(x), before);
         check.yes("a kind that was told wrongly", x.less(2, 3, true));
 
         ValueMethods y = new ValueMethods();
@@ -159,7 +159,7 @@ public final class TellTest {
 
     private static void promise5Discount() {
         ValueMethods x = told();
-        String before = Check.answers(x);
+        String before = Probe.answers(x);
         check.no("days of the last row", x.discount(10, 50));
         check.no("days below the last row's", x.discount(9, 50));
         check.illegal("days below 0", () -> x.discount(-1, 50));
@@ -167,7 +167,7 @@ public final class TellTest {
         check.illegal("thousandths below 0", () -> x.discount(20, -1));
         check.illegal("thousandths above", () -> x.discount(20, 1001));
         check.illegal("days of the last row, thousandths above", () -> x.discount(10, 1001));
-        check.same("wrong rows change nothing", Check.answers(x), before);
+        check.same("wrong rows change nothing", Probe.answers(x), before);
         check.yes("days above the last row's", x.discount(11, 0));
         check.same("rows", x.count(5), 2);
 
@@ -208,18 +208,18 @@ public final class TellTest {
         x.days(30, 41);
         check.same("day 30", x.count(3), 1);
         check.same("behind the row's last day", x.count(4), 0);
-        String before = Check.answers(x);
+        String before = Probe.answers(x);
         check.no("invoice below", x.days(-1, 0));
         check.no("invoice above", x.days(360, 0));
         check.no("paid below", x.days(0, -1));
         check.no("paid above", x.days(0, 360));
         check.no("far above", x.days(Integer.MAX_VALUE, Integer.MAX_VALUE));
-        check.same("wrong days change nothing", Check.answers(x), before);
+        check.same("wrong days change nothing", Probe.answers(x), before);
     }
 
     private static void promise7Rate() {
         ValueMethods x = told();
-        String before = Check.answers(x);
+        String before = Probe.answers(x);
         check.no("told", x.rate(1, 1, 1));
         check.no("period below", x.rate(-1, 1, 1));
         check.no("period above", x.rate(12, 1, 1));
@@ -227,7 +227,7 @@ public final class TellTest {
         check.no("up above", x.rate(2, 10001, 1));
         check.no("down below", x.rate(2, 1, 0));
         check.no("down above", x.rate(2, 1, 10001));
-        check.same("wrong rates change nothing", Check.answers(x), before);
+        check.same("wrong rates change nothing", Probe.answers(x), before);
         check.yes("a period that was told wrongly", x.rate(2, 10000, 10000));
         check.no("told as 1 / 1", x.rate(2, 1, 1));
         check.yes("period 0", x.rate(0, 10000, 1));
@@ -247,11 +247,11 @@ public final class TellTest {
 
     private static void promise8Condition() {
         ValueMethods x = told();
-        String before = Check.answers(x);
+        String before = Probe.answers(x);
         check.no("method 0", x.condition(0, true));
         check.no("method 7", x.condition(7, true));
         check.no("method -1", x.condition(-1, true));
-        check.same("wrong conditions change nothing", Check.answers(x), before);
+        check.same("wrong conditions change nothing", Probe.answers(x), before);
         check.same("1 holds", x.method(), 1);
         check.yes("1 no more", x.condition(1, false));
         check.same("none holds", x.method(), 0);
@@ -272,7 +272,7 @@ public final class TellTest {
         for (int method = 2; method <= 6; method++) {
             x.condition(method, true);
         }
-        String before = Check.answers(x);
+        String before = Probe.answers(x);
         check.no("method 1", x.figures(1, 1, 1));
         check.no("method 0", x.figures(0, 1, 1));
         check.no("method 7", x.figures(7, 1, 1));
@@ -288,7 +288,7 @@ public final class TellTest {
             check.no("b below, of " + method, x.figures(method, 1, -1));
             check.no("b above, of " + method, x.figures(method, 1, 1001));
         }
-        check.same("wrong figures change nothing", Check.answers(x), before);
+        check.same("wrong figures change nothing", Probe.answers(x), before);
 
         for (int method = 2; method <= 3; method++) {
             check.yes("the least, of " + method, x.figures(method, 0, 1));
@@ -305,14 +305,14 @@ public final class TellTest {
     private static void promise10Related() {
         ValueMethods x = told();
         check.same("passed", x.count(6), 1);
-        String before = Check.answers(x);
+        String before = Probe.answers(x);
         check.no("test below NONE", x.related(true, -2, 0));
         check.no("test above", x.related(true, 1000000001, 0));
         check.no("band below", x.related(true, 1, -1));
         check.no("band above", x.related(true, 1, 1001));
         check.no("wrong, though not related", x.related(false, -2, 0));
         check.no("a wrong band without a test", x.related(true, -1, 1001));
-        check.same("wrong tests change nothing", Check.answers(x), before);
+        check.same("wrong tests change nothing", Probe.answers(x), before);
         check.yes("no test", x.related(true, ValueMethods.NONE, 1000));
         check.same("no test is not passed", x.count(6), 0);
         check.same("so 1 does not hold", x.method(), 0);
