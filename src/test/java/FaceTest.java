@@ -39,6 +39,9 @@ public final class FaceTest {
 
     private static void classItself() {
         check.same("modifiers", Modifier.toString(ValueMethods.class.getModifiers()), "public final");
+        // A class above it or an interface would hand down members of its own.
+        check.same("the class above", ValueMethods.class.getSuperclass().getName(), "java.lang.Object");
+        check.same("interfaces", names(ValueMethods.class.getInterfaces()), "");
         Constructor<?>[] constructors = ValueMethods.class.getDeclaredConstructors();
         check.same("constructors", constructors.length, 1);
         check.same("constructor", constructors[0].toString(), "public ValueMethods()");
@@ -84,7 +87,10 @@ public final class FaceTest {
         int held = 0;
         for (Field field : ValueMethods.class.getDeclaredFields()) {
             int modifiers = field.getModifiers();
-            if (!field.getName().equals("NONE")) {
+            if (field.getName().equals("NONE")) {
+                check.same("NONE's modifiers", Modifier.toString(modifiers), "public static final");
+                check.same("NONE's type", field.getType().getName(), "int");
+            } else {
                 check.yes(field.getName() + " is private", Modifier.isPrivate(modifiers));
             }
             if (Modifier.isStatic(modifiers)) {
